@@ -298,10 +298,14 @@ public final class SorryToWin {
         if (s == null) {
             return NONE;
         }
+        // PLAIN and WISE bids stay as they are by any LEAST: a seller paid by who bids only loses bids by it.
+        if (s.way != PAY_NEXT) {
+            return 0;
+        }
         rowsAlike(s, s.bidders, wise);
         crowd.withSign(s, NONE);
         bars.gather(crowd, s);
-        return bars.pick(s.way);
+        return bars.pick();
     }
 
     public long telling(int sale) {
@@ -1034,26 +1038,21 @@ public final class SorryToWin {
         }
     }
 
-    /** What the seller takes by each LEAST. */
+    /** What the seller takes by each LEAST, where who wins pays the next bid. */
     private static final class Bars {
-        /** Weights by the highest bid, by the next one, and for every bid. */
+        /** Weights by the highest bid, and by the next one. */
         final long[] high = new long[TOP + 1];
         final long[] next = new long[TOP + 1];
-        final long[] each = new long[TOP + 1];
 
         void gather(Crowd crowd, Sale sale) {
             for (int bid = 0; bid <= TOP; bid++) {
                 high[bid] = 0;
                 next[bid] = 0;
-                each[bid] = 0;
             }
             int ways = crowd.begin(sale, sale.bidders, 0);
             for (int n = 0; n < ways; n++) {
                 addTo(high, crowd.high, crowd.weight);
                 addTo(next, crowd.next, crowd.weight);
-                for (int place = 0; place < crowd.bidders; place++) {
-                    addTo(each, crowd.bidNow(place), crowd.weight);
-                }
                 crowd.step();
             }
         }
@@ -1065,17 +1064,17 @@ public final class SorryToWin {
         }
 
         /** Goes down through the LEASTS, so that each adds only the bids that just count again. */
-        int pick(int way) {
+        int pick() {
             int best = TOP;
             long most = 0;
             long sold = 0;
             long withNext = 0;
-            long paid = 0;
+            long paidByNext = 0;
             for (int least = TOP; least >= 0; least--) {
                 sold += high[least];
                 withNext += next[least];
-                paid += least * (way == ALL_PAY ? each[least] : way == PAY_NEXT ? next[least] : high[least]);
-                long takes = way == PAY_NEXT ? paid + least * (sold - withNext) : paid;
+                paidByNext += least * next[least];
+                long takes = paidByNext + least * (sold - withNext);
                 if (takes >= most) {
                     most = takes;
                     best = least;

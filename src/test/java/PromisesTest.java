@@ -23,6 +23,7 @@ public final class PromisesTest {
         bests();
         finds();
         sellers();
+        inAnyOrder();
         nears();
         opens();
         learns();
@@ -74,10 +75,46 @@ public final class PromisesTest {
         due.is("four are refused whole", x.feed(0x20202020, 0, 0, 0, 0), NONE);
         due.is("nothing came", x.count(2), 237);
         due.is("three come", x.feed(0x20002020, 0, 0, 0, 0), 240);
+        eachWordCounts(x);
+    }
+
+    private static void eachWordCounts(SorryToWin x) {
+        for (int i = 0; i < 5; i++) {
+            int[] w = new int[5];
+            w[i] = 0x20200000;
+            due.is("end", x.end(239), true);
+            due.is("two in word " + i, x.feed(w[0], w[1], w[2], w[3], w[4]), NONE);
+            w[(i + 1) % 5] = ' ';
+            due.is("end", x.end(238), true);
+            due.is("three in word " + i + " and the next", x.feed(w[0], w[1], w[2], w[3], w[4]), NONE);
+            w[i] = ' ' << 8;
+            due.is("two in word " + i + " and the next", x.feed(w[0], w[1], w[2], w[3], w[4]), 240);
+        }
+        x.end(0);
+        Due.feed(x, "abcdefgh");
+        due.is("the order of bytes", x.feed('s' << 16, ' ' << 8, '2' << 24 | ';', 't' << 24, ' '), 14);
+        due.is("end", x.end(0), true);
+        x.feed('s' << 16, ' ' << 8, '2' << 24 | ';', 't' << 24, ' ');
+        due.is("as a text", x.fault(), 6);
+    }
+
+    /** What a text told before it was found wrong is forgotten. */
+    private static void noTrace() {
+        SorryToWin x = new SorryToWin();
+        Due.feed(x, "s 5;t 9 9 2 2 2 2 2;n 3;l 4;w 2;x");
+        due.is("wrong at its end", x.sale(), NONE);
+        x.end(0);
+        Due.feed(x, HINTS);
+        due.is("then a right one", x.sale(), 0);
+        int[] want = {2, 2, 2, 0, 0, 2};
+        for (int what = 0; what < 6; what++) {
+            due.is("no trace in " + what, x.told(0, what), want[what]);
+        }
     }
 
     /** Promises 5, 6, 7, 8, 33. */
     private static void sales() {
+        noTrace();
         SorryToWin x = Due.with("  s  3;t 07 9 0 1  9 ;n 3;l 60 ; l 05;w 1 ;w 2 ;n 4 ", HINTS);
         due.is("signs", x.told(0, 0), 3);
         due.is("truths", x.told(0, 1), 1);
@@ -468,7 +505,11 @@ public final class PromisesTest {
         x.change(0, 2, 1);
         due.is("bar, alone and way 1: 12 always or 18 half: 12", x.bar(0, false), 12);
         due.is("bar alone, WISE: as PLAIN", x.bar(0, true), 12);
+        x.change(0, 2, 2);
+        due.is("bar, way 2: the lowest", x.bar(0, false), 0);
+        x.change(0, 2, 1);
         x.change(0, 0, 2);
+        due.is("bar of two, way 1: 0 as good as 12, and lower", x.bar(0, false), 0);
         due.is("bar of no SALE", x.bar(2, false), NONE);
         due.is("told LEAST stays", x.told(0, 3), 0);
         due.is("telling the sure", x.telling(1), 12000 * 6 + 12000 * 12);
@@ -485,6 +526,43 @@ public final class PromisesTest {
         due.is("as one alone", x.asOne(1), NONE);
         due.is("as one of no SALE", x.asOne(2), NONE);
         due.is("telling one", x.telling(1), 1200 * 6 + 1200 * 12);
+    }
+
+    /** Each question on a new object with two SALES, asked first or after others: no answer hangs on what was asked before. */
+    private static void inAnyOrder() {
+        for (int first = 0; first < 12; first++) {
+            for (int then = 0; then < 12; then++) {
+                long alone = asked(two(), then);
+                SorryToWin x = two();
+                asked(x, first);
+                due.is("question " + then + " after " + first, asked(x, then), alone);
+            }
+        }
+    }
+
+    private static SorryToWin two() {
+        SorryToWin x = Due.with(HINTS + ";w 1", "s 3;t 44 5 3 3 4;t 7 1 0 1 9;t 23 2 5 5 0;n 3;l 5;w 2");
+        x.table();
+        return x;
+    }
+
+    private static long asked(SorryToWin x, int which) {
+        int sale = which % 2;
+        switch (which / 2) {
+            case 0:
+                return x.bar(sale, false) * 1000 + x.best(sale, 1, 1);
+            case 1:
+                return x.nearGain(sale) * 61 + x.near(sale, 1);
+            case 2:
+                return x.telling(sale);
+            case 3:
+                return x.asOne(sale) * 100 + x.judge(sale);
+            case 4:
+                return x.cases(sale, 1) + 17 * x.won(sale, 1, 1, 0) + 31 * x.less(sale, 0, 1, 0) + x.find(sale, 0);
+            default:
+                return x.learn(sale, 3, 40) + 100 * x.learned(0, 0) + 10000 * x.learned(1, 2) + x.got()
+                    + 1000000 * x.by(sale, 3, true, 0) + x.gain(sale, 1) + 7 * x.nearGain(sale);
+        }
     }
 
     /** Promises 24, 25. */
@@ -610,7 +688,18 @@ public final class PromisesTest {
         x.change(1, 0, 1);
         due.is("by the N of then", x.learned(1, 1), 7);
         noBids(x);
+        fewer();
         draws();
+    }
+
+    /** A LEARN of fewer SIGNS and SEATS after one of more. */
+    private static void fewer() {
+        SorryToWin x = Due.with("s 5;t 30 1 2 2 2 2 2;n 4", HINTS);
+        due.is("of many", x.learn(0, 1, 5), 0);
+        due.is("a SIGN of many", x.learned(3, 4) > 0, true);
+        x.learn(1, 1, 5);
+        due.is("not told by it", x.learned(1, 4), 0);
+        due.none("nor the SEAT", () -> x.learned(3, 4));
     }
 
     private static void noBids(SorryToWin x) {
