@@ -680,11 +680,11 @@ public final class SorryToWin {
                 v = v * TEN + second;
                 at++;
             }
-            // With a third digit it is no number of one or two, so its bounds do not count.
-            if (second != NONE && digit() != NONE) {
-                wrong = at;
-            } else if (v < low || v > high) {
+            // Out of bounds comes first: a third digit behind does not make right what is wrong before it.
+            if (v < low || v > high) {
                 wrong = at - 1;
+            } else if (second != NONE && digit() != NONE) {
+                wrong = at;
             }
             return wrong == NONE ? v : 0;
         }

@@ -40,8 +40,12 @@ public final class FaultTest {
         at("s 5", 3);
         at("s 02", 4);
         at("s 12", 3);
-        at("s 002", 4);
-        at("s 123", 4);
+        at("s 002", 3);
+        at("s 020", 4);
+        at("s 123", 3);
+        at("s 1234", 3);
+        at("s 200", 3);
+        at("s 045", 4);
         at("s 2t", 3);
         at("s 2 2", 4);
         at("s 2;", 4);
@@ -54,7 +58,22 @@ public final class FaultTest {
         at("s 2 ;  t  60  09  00  10  ", -1);
         at("s 2;t 61 9 0 10", 7);
         at("s 2;t 600 9 0 10", 8);
-        at("s 2;t 610 9 0 10", 8);
+        at("s 2;t 610 9 0 10", 7);
+        at("s 2;t 060 9 0 10", 8);
+        at("s 2;t 5 100 0 10", 9);
+        at("s 2;t 5 001 0 10", 9);
+        at("s 2;t 5 091 0 10", 10);
+        at("s 2;t 5 1 120", 11);
+        at("s 2;t 5 1 110 0", 11);
+        at("s 2;t 5 1 100 0", 12);
+        at("s 2;t 5 1 010 0", 12);
+        at("s 2;n 400", 7);
+        at("s 2;n 041", 8);
+        at("s 2;l 600", 8);
+        at("s 2;l 610", 7);
+        at("s 2;w 300", 7);
+        at("s 2;w 020", 8);
+        at("s 2;w 030", 7);
         at("s 2;t 5 0 5 5", 8);
         at("s 2;t 5 10 5 5", 9);
         at("s 2;t 5 1 11 0", 11);
@@ -64,7 +83,13 @@ public final class FaultTest {
         at("s 2;t 5 1 4 5", 12);
         at("s 2;t 5 1 4 06", -1);
         at("s 2;t 5 1 4 61", 13);
-        at("s 2;t 5 1 4 600", 14);
+        at("s 2;t 5 1 4 600", 13);
+        at("s 2;t 5 1 4 050", 13);
+        at("s 2;t 5 1 4 060", 14);
+        at("s 2;t 5 1 0 100", 14);
+        at("s 2;t 5 1 4 070", 13);
+        at("s 3;t 5 1 4 070 0", 13);
+        at("s 3;t 5 1 4 050 0", 14);
         at("s 2;t 5 1 4", 11);
         at("s 2;t 5 1 4 ", 12);
         at("s 2;t 5 1 4;", 11);
@@ -159,11 +184,9 @@ public final class FaultTest {
         for (int i = 0; i <= text.length(); i++) {
             char c = i < text.length() ? text.charAt(i) : 0;
             if (state == 'd') {
-                if (c >= '0' && c <= '9') {
+                boolean goesOn = c >= '0' && c <= '9';
+                if (goesOn && digits.length() == 1) {
                     digits += c;
-                    if (digits.length() == 3) {
-                        return i;
-                    }
                     continue;
                 }
                 int v = Integer.parseInt(digits);
@@ -171,6 +194,9 @@ public final class FaultTest {
                 boolean seen = bounds.length == 3;
                 if (v < bounds[0] || v > bounds[1] || seen && (sum + v > 10 || due.isEmpty() && sum + v != 10)) {
                     return i - 1;
+                }
+                if (goesOn) {
+                    return i;
                 }
                 sum = seen ? sum + v : 0;
                 signs = signs < 0 ? v : signs;
