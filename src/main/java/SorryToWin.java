@@ -216,19 +216,24 @@ public final class SorryToWin {
 
     public long won(int sale, int seat, int sign, int what) {
         Sale s = saleAt(sale);
-        if (s == null || !isHalf(what) || !wins(s, seat, sign)) {
+        if (s == null || !isHalf(what) || !s.hasSeat(seat) || !s.hasSign(sign)) {
             return NONE;
         }
+        tallyOf(s);
         int at = seat * MOST_SIGNS + sign;
-        return half(tally.wonWorth[at], tally.wonCases[at], what);
+        return tally.wonCases[at] > 0 ? half(tally.wonWorth[at], tally.wonCases[at], what) : NONE;
     }
 
     public long less(int sale, int seat, int sign, int what) {
         Sale s = saleAt(sale);
-        if (s == null || !isHalf(what) || !wins(s, seat, sign) || !s.weigh(sign, NONE, NONE, NONE)) {
+        if (s == null || !isHalf(what) || !s.hasSeat(seat) || !s.hasSign(sign)) {
             return HIDDEN;
         }
+        tallyOf(s);
         int at = seat * MOST_SIGNS + sign;
+        if (tally.wonCases[at] <= 0 || !s.weigh(sign, NONE, NONE, NONE)) {
+            return HIDDEN;
+        }
         long up = s.up * tally.wonCases[at] - tally.wonWorth[at] * s.down;
         return half(up, s.down * tally.wonCases[at], what);
     }
@@ -268,7 +273,7 @@ public final class SorryToWin {
             return NONE;
         }
         for (int sign = 0; sign < s.signs; sign++) {
-            turns.next[sign] = plainBid(s, false, sign, NONE);
+            turns.next[sign] = s.held(sign, NONE, NONE, NONE);
         }
         turns.begin(s.signs);
         for (int n = 0; n < MOST_TURNS && turns.goesOn(); n++) {
@@ -475,11 +480,7 @@ public final class SorryToWin {
         if (hasTable(sitter)) {
             return tableBids[sitter * MOST_SIGNS + sign];
         }
-        return plainBid(s, sitter == WISE && s.bidders > 1, sign, his);
-    }
-
-    private static int plainBid(Sale s, boolean twice, int sign, int his) {
-        return s.held(sign, twice ? sign : NONE, his, NONE);
+        return s.held(sign, sitter == WISE && s.bidders > 1 ? sign : NONE, his, NONE);
     }
 
     /** Puts what a SEAT bids into the crowd at a place there. */
@@ -502,7 +503,7 @@ public final class SorryToWin {
     private void rowsAlike(Sale s, int many, boolean wise) {
         for (int place = 0; place < many; place++) {
             for (int sign = 0; sign < s.signs; sign++) {
-                crowd.bidBy(place, sign, plainBid(s, wise && many > 1, sign, NONE));
+                crowd.bidBy(place, sign, s.held(sign, wise && many > 1 ? sign : NONE, NONE, NONE));
             }
         }
     }
@@ -514,15 +515,6 @@ public final class SorryToWin {
         crowd.withSign(s, NONE);
         tally.clear();
         tally.add(crowd, s, s.bidders);
-    }
-
-    /** Whether there are such a SEAT and SIGN and it wins with it; the tally is made then. */
-    private boolean wins(Sale s, int seat, int sign) {
-        if (!s.hasSeat(seat) || !s.hasSign(sign)) {
-            return false;
-        }
-        tallyOf(s);
-        return tally.wonCases[seat * MOST_SIGNS + sign] > 0;
     }
 
     private void rivalsBySign(Sale s, int sign) {
@@ -739,7 +731,7 @@ public final class SorryToWin {
 
         /** How many of ten see a SIGN; 1 for no SIGN, so that it leaves a product as it is. */
         int seeing(int truth, int sign) {
-            return hasSign(sign) ? ofTen[truth * MOST_SIGNS + sign] : 1;
+            return sign >= 0 && sign < signs ? ofTen[truth * MOST_SIGNS + sign] : 1;
         }
 
         /** The WORTH of up to four SIGNS (NONE: not that many) as up / down; false: no TRUTH has a weight with them. */
@@ -850,7 +842,7 @@ public final class SorryToWin {
             next = NONE;
             sum = 0;
             for (int place = 0; place < bidders; place++) {
-                int bid = bidNow(place);
+                int bid = row[place * MOST_SIGNS + sign[place]];
                 if (bid < least) {
                     continue;
                 }

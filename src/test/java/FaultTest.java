@@ -174,7 +174,7 @@ public final class FaultTest {
 
     // ---- byte by byte: what may come is a list of bounds of the numbers that are still due
 
-    private static int slowFault(String text) {
+    static int slowFault(String text) {
         java.util.ArrayDeque<int[]> due = new java.util.ArrayDeque<>();
         int signs = -1;
         int truths = 0;

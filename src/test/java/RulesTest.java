@@ -1,7 +1,9 @@
 import java.nio.file.Files;
 import java.nio.file.Path;
 import java.util.ArrayList;
+import java.util.HashMap;
 import java.util.List;
+import java.util.Map;
 import java.util.regex.Matcher;
 import java.util.regex.Pattern;
 
@@ -34,6 +36,7 @@ public final class RulesTest {
             }
         }
         methods(code.split("\n", -1));
+        depth(code.split("\n", -1));
         makes(code.split("\n", -1));
         due.close("RulesTest");
     }
@@ -104,6 +107,36 @@ public final class RulesTest {
             due.is(m.group(1) + " counts its loops", loops, 0);
         }
         due.is("methods found", found > 60, true);
+    }
+
+    /** No call stands more than eight deep; methods of one name are taken as one, which can only look deeper. */
+    private static void depth(String[] lines) {
+        Map<String, StringBuilder> bodies = new HashMap<>();
+        StringBuilder body = new StringBuilder();
+        for (String line : lines) {
+            Matcher m = METHOD.matcher(line);
+            if (m.matches()) {
+                body = bodies.computeIfAbsent(m.group(1), name -> new StringBuilder());
+            } else {
+                body.append(line).append('\n');
+            }
+        }
+        for (String name : FACE) {
+            due.is(name + " stands in the source", bodies.containsKey(name), true);
+            int deep = deepest(bodies, name, 1);
+            due.is(name + " goes " + deep + " deep, at most eight", deep <= 8, true);
+        }
+    }
+
+    private static int deepest(Map<String, StringBuilder> bodies, String name, int at) {
+        int most = at;
+        Matcher call = Pattern.compile("\\b(\\w+)\\(").matcher(bodies.getOrDefault(name, new StringBuilder()));
+        while (at < 20 && call.find()) {
+            if (bodies.containsKey(call.group(1))) {
+                most = Math.max(most, deepest(bodies, call.group(1), at + 1));
+            }
+        }
+        return most;
     }
 
     /** Objects are made with the objects that keep them, but for a SALE's next draft. */

@@ -32,6 +32,40 @@ final class Slow {
         long[][] wonCases = new long[4][5];
     }
 
+    /** A text without a FAULT. */
+    static Slow of(String text) {
+        Slow s = new Slow();
+        java.util.List<int[]> truths = new java.util.ArrayList<>();
+        for (String clause : text.split(";")) {
+            String[] words = clause.trim().split(" +");
+            int[] v = new int[words.length - 1];
+            for (int i = 0; i < v.length; i++) {
+                v[i] = Integer.parseInt(words[i + 1]);
+            }
+            switch (words[0]) {
+                case "s":
+                    s.signs = v[0];
+                    break;
+                case "t":
+                    truths.add(v);
+                    break;
+                case "n":
+                    s.bidders = v[0];
+                    break;
+                case "l":
+                    s.least = v[0];
+                    break;
+                default:
+                    s.way = v[0];
+                    break;
+            }
+        }
+        s.value = truths.stream().mapToInt(v -> v[0]).toArray();
+        s.weight = truths.stream().mapToInt(v -> v[1]).toArray();
+        s.ofTen = truths.stream().map(v -> java.util.Arrays.copyOfRange(v, 2, v.length)).toArray(int[][]::new);
+        return s;
+    }
+
     // ---- thinking
 
     long[] mean(int... seen) {

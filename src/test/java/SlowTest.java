@@ -10,7 +10,47 @@ public final class SlowTest {
             int most = n % 20 == 0 ? 5 : n % 3 == 0 ? 4 : 3;
             one("sale " + n, r, most, n % 4 + 1, n % 8 + 1);
         }
+        for (int n = 0; n < 6; n++) {
+            biggest("big sale " + n, new Random(1000 + n), n % 3 + 2);
+        }
         due.close("SlowTest");
+    }
+
+    /** Five SIGNS and eight TRUTHS of high weights, with as many BIDDERS as may come: the greatest sums. */
+    private static void biggest(String name, Random r, int bidders) {
+        Slow slow = made(r, 5, bidders, 8);
+        slow.signs = 5;
+        slow.value = new int[8];
+        slow.weight = new int[8];
+        slow.ofTen = new int[8][5];
+        for (int t = 0; t < 8; t++) {
+            slow.value[t] = 60 - r.nextInt(6) * t;
+            slow.weight[t] = 9 - r.nextInt(2);
+            for (int i = 0; i < 10; i++) {
+                slow.ofTen[t][r.nextInt(3) == 0 ? r.nextInt(5) : t % 5]++;
+            }
+        }
+        slow.least = bidders == 3 ? 0 : 40;
+        SorryToWin x = Due.with(text(slow, r));
+        tables(name, slow, x, r);
+        thinking(name, slow, x, r);
+        for (int way = 0; way < 3; way++) {
+            slow.way = way;
+            due.is(name + " way", x.change(0, 2, way), true);
+            cases(name, slow, x);
+            due.is(name + " asOne", x.asOne(0), slow.asOne());
+            due.is(name + " bar", x.bar(0, way == 1), slow.bar(way == 1));
+        }
+        due.is(name + " telling", x.telling(0), slow.telling());
+        for (int wise = 0; wise < 2; wise++) {
+            long[] by = slow.by(4, wise == 1);
+            due.is(name + " by up", x.by(0, 4, wise == 1, 0), by[0]);
+            due.is(name + " by down", x.by(0, 4, wise == 1, 1), by[1]);
+        }
+        due.is(name + " near", x.near(0, 7), slow.near(7));
+        due.is(name + " best", x.best(0, bidders - 1, 4), slow.best(bidders - 1, 4));
+        open(name, slow, x, r);
+        learn(name, slow, x, r);
     }
 
     private static void one(String name, Random r, int mostSigns, int bidders, int mostTruths) {
