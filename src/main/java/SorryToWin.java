@@ -672,13 +672,12 @@ public final class SorryToWin {
                 v = v * TEN + second;
                 at++;
             }
-            // Out of bounds comes first: a third digit behind does not make right what is wrong before it.
+            // A third digit needs no look: it is neither a blank nor a ; nor the end, of which one must stand there.
             if (v < low || v > high) {
                 wrong = at - 1;
-            } else if (second != NONE && digit() != NONE) {
-                wrong = at;
+                return 0;
             }
-            return wrong == NONE ? v : 0;
+            return v;
         }
 
         private int digit() {

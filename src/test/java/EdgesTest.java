@@ -132,7 +132,23 @@ public final class EdgesTest {
         x.end(239);
         x.feed('x', 0, 0, 0, 0);
         due.is("the last byte may be wrong", x.fault(), 239);
+        eachByteCounts();
         full();
+    }
+
+    /** Each byte but 0 is one, wherever it stands. */
+    private static void eachByteCounts() {
+        for (int b = 1; b < 256; b++) {
+            SorryToWin x = new SorryToWin();
+            Due.feed(x, "x".repeat(240));
+            for (int i = 0; i < 20; i++) {
+                int[] w = new int[5];
+                w[i / 4] = b << 24 - 8 * (i % 4);
+                due.is("byte " + b + " on a full TAPE, place " + i, x.feed(w[0], w[1], w[2], w[3], w[4]), NONE);
+                x.end(239);
+                due.is("byte " + b + " fills it, place " + i, x.feed(w[0], w[1], w[2], w[3], w[4]), 240);
+            }
+        }
     }
 
     /** A SALE whose text fills the TAPE. */
@@ -371,7 +387,7 @@ public final class EdgesTest {
         int[] low = {1, 0, 0};
         int[] high = {4, 60, 2};
         for (int what = 0; what < 3; what++) {
-            for (int v = -3; v < 64; v++) {
+            for (int v = -3; v < high[what] + 4; v++) {
                 boolean right = v >= low[what] && v <= high[what];
                 int before = x.told(0, 2 + what);
                 due.is("change " + what + " to " + v, x.change(0, what, v), right);
@@ -443,7 +459,7 @@ public final class EdgesTest {
         x.seat(0, 0, 9);
         for (int sign = 0; sign < 5; sign++) {
             due.is("0 at first", x.bids(0, 0, sign), 0);
-            for (int v = -2; v < 63; v++) {
+            for (int v = -2; v < 63; v += v < 2 || v > 56 ? 1 : 5) {
                 boolean right = v >= 0 && v <= 60;
                 due.is("bid " + v, x.bid(9, sign, v), right);
                 due.is("is it", x.bids(0, 0, sign), Math.max(0, Math.min(60, v)));
@@ -852,7 +868,9 @@ public final class EdgesTest {
     /** "the LEAST (0 .. 60) by which TAKES is most", "of several the lowest". */
     private static void bars() {
         SorryToWin x = Due.with("s 2;t 60 1 10 0;n 1;w 1", "s 2;t 0 1 10 0;n 1;w 1", "s 2;t 6 1 10 0;t 12 1 0 10;n 1;w 1",
-            "s 2;t 60 9 10 0;t 0 1 9 1;w 1", MOST);
+            "s 2;t 60 9 10 0;t 0 1 9 1;w 1", MOST, "s 2;t 12 1 10 0;t 25 1 0 10;n 1;w 1", "s 2;t 12 1 10 0;t 23 1 0 10;n 1;w 1");
+        due.is("25 half the time is a little more than 12 always", x.bar(5, false), 25);
+        due.is("23 half the time is a little less", x.bar(6, false), 12);
         for (int wise = 0; wise < 2; wise++) {
             due.is("60 may be it", x.bar(0, wise == 1), 60);
             due.is("0 may be it", x.bar(1, wise == 1), 0);
@@ -870,7 +888,7 @@ public final class EdgesTest {
         due.is("SEATS do not matter", x.seat(3, 0, -2) && x.seat(3, 1, -2) ? x.bar(3, false) : 0, 54);
         due.is("WISE alone: as PLAIN", x.change(3, 0, 1) ? x.bar(3, true) : 0, 54);
         due.is("way 0: any up to 54, the lowest", x.change(3, 2, 0) ? x.bar(3, false) : -1, 0);
-        due.is("SALE 5", x.bar(5, false), NONE);
+        due.is("SALE 7", x.bar(7, false), NONE);
     }
 
     /** "HELD of their SIGN and his", "TABLES as ever", "weights with his as well". */
